@@ -27,6 +27,17 @@ public final class ManyTest {
         x.channel(3, 0, 0, 0);
         x.catcher(1, 0, 1, 1);
         due.row("many(..)", Look.many(x), 12, 0, 2, 24, 1, 4 + 3 + 2);
+        catchersReadyOneByOne();
         due.end();
+    }
+
+    private static void catchersReadyOneByOne() {
+        ChipTimers x = new ChipTimers();
+        for (int k = 0; k < 4; k++) {
+            x.catcher(k, 0, 1, 1);
+            x.input(k, 1);
+            x.ticks(1);
+            due.is("many(4)", x.many(4), k + 1);
+        }
     }
 }
