@@ -14,23 +14,11 @@ public final class CatcherTest {
         due.end();
     }
 
-    private static ChipTimers clocked() {
-        ChipTimers x = new ChipTimers();
-        x.source(0, 1);
-        return x;
-    }
-
-    /** Turns the INPUT over and lets a TICK pass. */
-    private static void turn(ChipTimers x, int k) {
-        x.input(k, 1 - x.ofInput(k, 0));
-        x.ticks(1);
-    }
-
     private static void catcherStartsAnew() {
-        ChipTimers x = clocked();
+        ChipTimers x = Rig.clocked(0, 99, 1);
         due.is("catcher(3, 0, 3, 1)", x.catcher(3, 0, 3, 1), 1);
-        turn(x, 3);
-        turn(x, 3);
+        Rig.turn(x, 3);
+        Rig.turn(x, 3);
         due.row("ofCatcher(3, ..)", Look.catcher(x, 3), 0, 3, 1, 2, 2, 1, 1);
         due.is("catcher(3, 2, 1, 4)", x.catcher(3, 2, 1, 4), 1);
         due.row("ofCatcher(3, ..)", Look.catcher(x, 3), 2, 1, 4, 0, 0, 0, 0);
@@ -52,28 +40,28 @@ public final class CatcherTest {
     }
 
     private static void takenOnce() {
-        ChipTimers x = clocked();
+        ChipTimers x = Rig.clocked(0, 99, 1);
         x.catcher(1, 0, 1, 1);
         due.is("taken(1)", x.taken(1), -9);
         x.ticks(4);
-        turn(x, 1);
+        Rig.turn(x, 1);
         due.is("many(4)", x.many(4), 1);
         due.is("taken(1)", x.taken(1), 5);
         due.row("VALUE stays", Look.catcher(x, 1), 0, 1, 1, 1, 5, 0, 0);
         due.is("taken(1)", x.taken(1), -9);
-        turn(x, 1);
-        turn(x, 1);
+        Rig.turn(x, 1);
+        Rig.turn(x, 1);
         due.row("nothing is MISSED that was taken", Look.catcher(x, 1), 0, 1, 1, 2, 7, 1, 0);
-        turn(x, 1);
-        turn(x, 1);
+        Rig.turn(x, 1);
+        Rig.turn(x, 1);
         due.row("MISSED", Look.catcher(x, 1), 0, 1, 1, 3, 9, 1, 1);
         due.is("taken(1)", x.taken(1), 9);
         due.is("taken(4)", x.taken(4), -1);
         due.is("taken(-1)", x.taken(-1), -1);
         x.count(0, 99);
-        turn(x, 1);
+        Rig.turn(x, 1);
         x.count(0, 99);
-        turn(x, 1);
+        Rig.turn(x, 1);
         due.is("a VALUE of 0 is one, too: taken(1)", x.taken(1), 0);
     }
 
@@ -86,7 +74,7 @@ public final class CatcherTest {
     }
 
     private static void edgesThatItTakes() {
-        ChipTimers x = clocked();
+        ChipTimers x = Rig.clocked(0, 99, 1);
         for (int k = 0; k < 4; k++) {
             x.catcher(k, 0, k, 1);
             x.input(k, 1);
@@ -104,22 +92,22 @@ public final class CatcherTest {
     }
 
     private static void everySeveralth() {
-        ChipTimers x = clocked();
+        ChipTimers x = Rig.clocked(0, 99, 1);
         x.catcher(0, 0, 3, 3);
-        turn(x, 0);
-        turn(x, 0);
+        Rig.turn(x, 0);
+        Rig.turn(x, 0);
         due.row("two of three", Look.catcher(x, 0), 0, 3, 3, 2, 0, 0, 0);
-        turn(x, 0);
+        Rig.turn(x, 0);
         due.row("three of three", Look.catcher(x, 0), 0, 3, 3, 3, 3, 1, 0);
-        turn(x, 0);
-        turn(x, 0);
+        Rig.turn(x, 0);
+        Rig.turn(x, 0);
         due.row("five", Look.catcher(x, 0), 0, 3, 3, 5, 3, 1, 0);
-        turn(x, 0);
+        Rig.turn(x, 0);
         due.row("six", Look.catcher(x, 0), 0, 3, 3, 6, 6, 1, 1);
     }
 
     private static void countOfItsCounterBehindTheStep() {
-        ChipTimers x = clocked();
+        ChipTimers x = Rig.clocked(0, 99, 1);
         x.counter(3, 1, 50, 1);
         x.source(3, 3);
         x.catcher(3, 3, 1, 1);
@@ -132,7 +120,7 @@ public final class CatcherTest {
     }
 
     private static void edgeByFilter() {
-        ChipTimers x = clocked();
+        ChipTimers x = Rig.clocked(0, 99, 1);
         x.filter(0, 4);
         x.catcher(0, 0, 1, 1);
         x.input(0, 1);

@@ -23,13 +23,6 @@ public final class ChannelTest {
         due.end();
     }
 
-    private static ChipTimers clocked(int top) {
-        ChipTimers x = new ChipTimers();
-        x.counter(0, 0, top, 1);
-        x.source(0, 1);
-        return x;
-    }
-
     /** What of a CHANNEL behind each of n TICKS. */
     private static int[] told(ChipTimers x, int k, int what, int n) {
         int[] row = new int[n];
@@ -41,7 +34,7 @@ public final class ChannelTest {
     }
 
     private static void channelStartsAnew() {
-        ChipTimers x = clocked(9);
+        ChipTimers x = Rig.clocked(0, 9, 1);
         x.channel(2, 0, 2, 1);
         x.outputs(2, 3, 1, 2);
         x.ticks(5);
@@ -83,7 +76,7 @@ public final class ChannelTest {
     }
 
     private static void outputsLeaveLevelAndSince() {
-        ChipTimers x = clocked(9);
+        ChipTimers x = Rig.clocked(0, 9, 1);
         x.channel(0, 0, 2, 1);
         x.ticks(3);
         x.outputs(0, 1, 0, 0);
@@ -106,28 +99,28 @@ public final class ChannelTest {
     }
 
     private static void levelsByMode() {
-        ChipTimers off = clocked(3);
+        ChipTimers off = Rig.clocked(0, 3, 1);
         off.channel(0, 0, 0, 2);
         due.row("OFF", told(off, 0, 3, 6), 0, 0, 0, 0, 0, 0);
         due.row("OFF, too, has SINCE", Look.channel(off, 0), 0, 0, 2, 0, 6, 0, 0, 0, 0);
-        ChipTimers below = clocked(3);
+        ChipTimers below = Rig.clocked(0, 3, 1);
         below.channel(0, 0, 1, 2);
         due.row("BELOW", told(below, 0, 3, 6), 1, 0, 0, 1, 1, 0);
-        ChipTimers above = clocked(3);
+        ChipTimers above = Rig.clocked(0, 3, 1);
         above.channel(0, 0, 2, 2);
         due.row("ABOVE", told(above, 0, 3, 6), 0, 1, 1, 0, 0, 1);
-        ChipTimers turning = clocked(3);
+        ChipTimers turning = Rig.clocked(0, 3, 1);
         turning.channel(0, 0, 3, 2);
         due.row("TURNING", told(turning, 0, 3, 10), 0, 1, 1, 1, 1, 0, 0, 0, 0, 1);
-        ChipTimers once = clocked(3);
+        ChipTimers once = Rig.clocked(0, 3, 1);
         once.channel(0, 0, 4, 2);
         due.row("ONCE", told(once, 0, 3, 7), 0, 1, 1, 1, 1, 1, 1);
         once.channel(0, 0, 4, 2);
         due.row("ONCE, again", told(once, 0, 3, 4), 0, 0, 1, 1);
-        ChipTimers never = clocked(3);
+        ChipTimers never = Rig.clocked(0, 3, 1);
         never.channel(0, 0, 1, 0);
         due.row("BELOW 0", told(never, 0, 3, 4), 0, 0, 0, 0);
-        ChipTimers always = clocked(3);
+        ChipTimers always = Rig.clocked(0, 3, 1);
         always.channel(0, 0, 2, 0);
         due.row("ABOVE 0", told(always, 0, 3, 4), 1, 1, 1, 1);
     }
@@ -148,7 +141,7 @@ public final class ChannelTest {
     }
 
     private static void ofItsOwnCounter() {
-        ChipTimers x = clocked(9);
+        ChipTimers x = Rig.clocked(0, 9, 1);
         x.counter(2, 0, 9, 1);
         x.count(2, 7);
         x.channel(1, 2, 2, 7);
@@ -174,11 +167,11 @@ public final class ChannelTest {
     }
 
     private static void deadTime() {
-        ChipTimers x = clocked(9);
+        ChipTimers x = Rig.clocked(0, 9, 1);
         x.channel(0, 0, 1, 5);
         x.outputs(0, 2, 0, 0);
         due.row("the set that is ON", told(x, 0, 8, 16), 0, 0, 1, 1, 0, 0, 2, 2, 2, 0, 0, 1, 1, 1, 0, 0);
-        ChipTimers y = clocked(99);
+        ChipTimers y = Rig.clocked(0, 99, 1);
         y.channel(0, 0, 1, 30);
         y.outputs(0, 20, 0, 0);
         y.ticks(20);
@@ -189,7 +182,7 @@ public final class ChannelTest {
     }
 
     private static void deadTimeChangedAtOnce() {
-        ChipTimers x = clocked(99);
+        ChipTimers x = Rig.clocked(0, 99, 1);
         x.channel(0, 0, 1, 50);
         x.ticks(3);
         due.is("ofChannel(0, 8)", x.ofChannel(0, 8), 1);
@@ -203,7 +196,7 @@ public final class ChannelTest {
 
     private static void neverBothOn() {
         for (int mode = 0; mode <= 4; mode++) {
-            ChipTimers x = clocked(3);
+            ChipTimers x = Rig.clocked(0, 3, 1);
             x.channel(0, 0, mode, 2);
             for (int i = 0; i < 50; i++) {
                 x.ticks(1);
@@ -217,7 +210,7 @@ public final class ChannelTest {
     }
 
     private static void polarity() {
-        ChipTimers x = clocked(9);
+        ChipTimers x = Rig.clocked(0, 9, 1);
         x.outputs(0, 0, 3, 0);
         due.row("an OFF channel, both turned over", Look.pins(x), 1, 1, 0, 0, 0, 0, 0, 0);
         x.outputs(0, 0, 2, 0);
@@ -238,7 +231,7 @@ public final class ChannelTest {
             first[2 * k] = 1;
             int[] second = new int[8];
             second[2 * k + 1] = 1;
-            ChipTimers x = clocked(9);
+            ChipTimers x = Rig.clocked(0, 9, 1);
             x.channel(k, 0, 1, 2);
             x.ticks(1);
             due.row("CHANNEL " + k + ", LEVEL 1", Look.pins(x), first);
@@ -248,7 +241,7 @@ public final class ChannelTest {
     }
 
     private static void pinsChangeWithoutATick() {
-        ChipTimers x = clocked(9);
+        ChipTimers x = Rig.clocked(0, 9, 1);
         x.channel(1, 0, 2, 0);
         x.ticks(4);
         due.is("pin(2)", x.pin(2), 1);
@@ -262,7 +255,7 @@ public final class ChannelTest {
     }
 
     private static void countAloneChangesNoPin() {
-        ChipTimers x = clocked(9);
+        ChipTimers x = Rig.clocked(0, 9, 1);
         x.channel(0, 0, 1, 5);
         x.ticks(1);
         x.count(0, 8);

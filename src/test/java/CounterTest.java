@@ -115,74 +115,57 @@ public final class CounterTest {
         due.is("ofCounter(0, -1)", x.ofCounter(0, -1), -2);
     }
 
-    /** The COUNTS of COUNTER 0 behind each of n TICKS. */
-    private static int[] counts(ChipTimers x, int n) {
-        int[] row = new int[n];
-        for (int i = 0; i < n; i++) {
-            x.ticks(1);
-            row[i] = x.ofCounter(0, 0);
-        }
-        return row;
-    }
-
-    private static ChipTimers clocked(int mode, int top, int share) {
-        ChipTimers x = new ChipTimers();
-        x.counter(0, mode, top, share);
-        x.source(0, 1);
-        return x;
-    }
-
     private static void upGoesOver() {
-        ChipTimers x = clocked(0, 2, 1);
-        due.row("UP", counts(x, 7), 1, 2, 0, 1, 2, 0, 1);
+        ChipTimers x = Rig.clocked(0, 2, 1);
+        due.row("UP", Rig.counts(x, 0, 7), 1, 2, 0, 1, 2, 0, 1);
         due.row("ofCounter(0, ..)", Look.counter(x, 0), 1, 2, 0, 1, 1, 0, 1, 2, -9);
     }
 
     private static void downGoesOver() {
-        ChipTimers x = clocked(1, 2, 1);
-        due.row("DOWN", counts(x, 7), 2, 1, 0, 2, 1, 0, 2);
+        ChipTimers x = Rig.clocked(1, 2, 1);
+        due.row("DOWN", Rig.counts(x, 0, 7), 2, 1, 0, 2, 1, 0, 2);
         due.row("ofCounter(0, ..)", Look.counter(x, 0), 2, 2, 1, 1, 1, 0, 1, 3, -9);
     }
 
     private static void bothGoesOverAtBothEnds() {
-        ChipTimers x = clocked(2, 3, 1);
-        due.row("BOTH", counts(x, 3), 1, 2, 3);
+        ChipTimers x = Rig.clocked(2, 3, 1);
+        due.row("BOTH", Rig.counts(x, 0, 3), 1, 2, 3);
         due.row("at TOP", Look.counter(x, 0), 3, 3, 2, 1, 1, 0, 1, 0, -9);
-        due.row("BOTH", counts(x, 1), 2);
+        due.row("BOTH", Rig.counts(x, 0, 1), 2);
         due.row("behind TOP", Look.counter(x, 0), 2, 3, 2, 1, 1, 0, 0, 1, -9);
-        due.row("BOTH", counts(x, 2), 1, 0);
+        due.row("BOTH", Rig.counts(x, 0, 2), 1, 0);
         due.row("at 0", Look.counter(x, 0), 0, 3, 2, 1, 1, 0, 0, 1, -9);
-        due.row("BOTH", counts(x, 4), 1, 2, 3, 2);
+        due.row("BOTH", Rig.counts(x, 0, 4), 1, 2, 3, 2);
         due.row("behind both", Look.counter(x, 0), 2, 3, 2, 1, 1, 0, 0, 3, -9);
     }
 
     private static void bothFromWhereItIsPut() {
-        ChipTimers x = clocked(2, 3, 1);
+        ChipTimers x = Rig.clocked(2, 3, 1);
         x.count(0, 3);
-        due.row("BOTH, put at TOP with WAY 1", counts(x, 1), 2);
+        due.row("BOTH, put at TOP with WAY 1", Rig.counts(x, 0, 1), 2);
         due.is("count(0, 3)", x.count(0, 3), 2);
-        due.row("BOTH, put at TOP with WAY 0", counts(x, 1), 2);
+        due.row("BOTH, put at TOP with WAY 0", Rig.counts(x, 0, 1), 2);
         due.is("many(5)", x.many(5), 1);
         due.is("count(0, 0)", x.count(0, 0), 2);
-        due.row("BOTH, put at 0 with WAY 0", counts(x, 1), 1);
+        due.row("BOTH, put at 0 with WAY 0", Rig.counts(x, 0, 1), 1);
         due.is("count(0, 0)", x.count(0, 0), 1);
-        due.row("BOTH, put at 0 with WAY 1", counts(x, 1), 1);
+        due.row("BOTH, put at 0 with WAY 1", Rig.counts(x, 0, 1), 1);
         due.row("ofCounter(0, ..)", Look.counter(x, 0), 1, 3, 2, 1, 1, 0, 1, 2, -9);
     }
 
     private static void leastTop() {
-        due.row("UP, TOP 1", counts(clocked(0, 1, 1), 4), 1, 0, 1, 0);
-        due.row("DOWN, TOP 1", counts(clocked(1, 1, 1), 4), 1, 0, 1, 0);
-        ChipTimers x = clocked(2, 1, 1);
-        due.row("BOTH, TOP 1", counts(x, 4), 1, 0, 1, 0);
+        due.row("UP, TOP 1", Rig.counts(Rig.clocked(0, 1, 1), 0, 4), 1, 0, 1, 0);
+        due.row("DOWN, TOP 1", Rig.counts(Rig.clocked(1, 1, 1), 0, 4), 1, 0, 1, 0);
+        ChipTimers x = Rig.clocked(2, 1, 1);
+        due.row("BOTH, TOP 1", Rig.counts(x, 0, 4), 1, 0, 1, 0);
         due.is("ofCounter(0, 7)", x.ofCounter(0, 7), 3);
     }
 
     private static void shareDividesPulses() {
-        ChipTimers x = clocked(0, 9, 3);
-        due.row("SHARE 3", counts(x, 7), 0, 0, 1, 1, 1, 2, 2);
+        ChipTimers x = Rig.clocked(0, 9, 3);
+        due.row("SHARE 3", Rig.counts(x, 0, 7), 0, 0, 1, 1, 1, 2, 2);
         due.is("ofCounter(0, 5)", x.ofCounter(0, 5), 1);
-        ChipTimers y = clocked(0, 9, 64);
+        ChipTimers y = Rig.clocked(0, 9, 64);
         y.ticks(63);
         due.row("SHARE 64", Look.counter(y, 0), 0, 9, 0, 64, 1, 63, 1, 0, -9);
         y.ticks(1);
@@ -190,7 +173,7 @@ public final class CounterTest {
     }
 
     private static void chainOfCounters() {
-        ChipTimers x = clocked(0, 1, 1);
+        ChipTimers x = Rig.clocked(0, 1, 1);
         x.counter(1, 1, 1, 1);
         x.source(1, 2);
         x.counter(2, 2, 1, 2);
@@ -234,22 +217,22 @@ public final class CounterTest {
     }
 
     private static void waitingTopIsTakenInItsTurn() {
-        ChipTimers up = clocked(0, 3, 1);
+        ChipTimers up = Rig.clocked(0, 3, 1);
         up.top(0, 1);
-        due.row("UP", counts(up, 7), 1, 2, 3, 0, 1, 0, 1);
-        ChipTimers down = clocked(1, 1, 1);
+        due.row("UP", Rig.counts(up, 0, 7), 1, 2, 3, 0, 1, 0, 1);
+        ChipTimers down = Rig.clocked(1, 1, 1);
         down.count(0, 1);
         down.top(0, 3);
-        due.row("DOWN", counts(down, 7), 0, 3, 2, 1, 0, 3, 2);
-        ChipTimers both = clocked(2, 2, 1);
+        due.row("DOWN", Rig.counts(down, 0, 7), 0, 3, 2, 1, 0, 3, 2);
+        ChipTimers both = Rig.clocked(2, 2, 1);
         both.top(0, 1);
-        due.row("BOTH", counts(both, 4), 1, 2, 1, 0);
+        due.row("BOTH", Rig.counts(both, 0, 4), 1, 2, 1, 0);
         due.row("not at TOP", Look.counter(both, 0), 0, 2, 2, 1, 1, 0, 0, 1, 1);
-        due.row("BOTH", counts(both, 1), 1);
+        due.row("BOTH", Rig.counts(both, 0, 1), 1);
         due.row("at 0", Look.counter(both, 0), 1, 1, 2, 1, 1, 0, 1, 2, -9);
-        due.row("BOTH", counts(both, 2), 0, 1);
+        due.row("BOTH", Rig.counts(both, 0, 2), 0, 1);
         both.top(0, 5);
         both.top(0, 3);
-        due.row("the last one that WAITS", counts(both, 6), 0, 1, 2, 3, 2, 1);
+        due.row("the last one that WAITS", Rig.counts(both, 0, 6), 0, 1, 2, 3, 2, 1);
     }
 }

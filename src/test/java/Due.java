@@ -1,6 +1,7 @@
 /** Compares answers with those that are due, and ends the test with exit code 1 if one was not. */
 final class Due {
     private final String test;
+    private String sentence = "";
     private int asked;
     private int wrong;
 
@@ -8,11 +9,15 @@ final class Due {
         this.test = test;
     }
 
+    /** The document's words by which the answers from here on are due. */
+    void sentence(String words) {
+        sentence = " by \"" + words + "\"";
+    }
+
     void is(String call, long got, long want) {
         asked++;
         if (got != want) {
-            wrong++;
-            System.out.println(test + ": " + call + " answered " + got + ", due is " + want);
+            tell(call + " answered " + got + ", due is " + want);
         }
     }
 
@@ -20,18 +25,21 @@ final class Due {
     void row(String calls, int[] got, int... want) {
         asked++;
         if (!java.util.Arrays.equals(got, want)) {
-            wrong++;
-            System.out.println(test + ": " + calls + " answered " + java.util.Arrays.toString(got)
-                + ", due is " + java.util.Arrays.toString(want));
+            tell(calls + " answered " + java.util.Arrays.toString(got) + ", due is "
+                + java.util.Arrays.toString(want));
         }
     }
 
     void holds(String what, boolean so) {
         asked++;
         if (!so) {
-            wrong++;
-            System.out.println(test + ": it does not hold that " + what);
+            tell("it does not hold that " + what);
         }
+    }
+
+    private void tell(String fault) {
+        wrong++;
+        System.out.println(test + ": " + fault + sentence);
     }
 
     void end() {

@@ -17,15 +17,6 @@ public final class PairTest {
         due.end();
     }
 
-    /** A PAIR that goes OVER in its low half with every third TICK. */
-    private static ChipTimers wholePair(int k) {
-        ChipTimers x = new ChipTimers();
-        x.counter(2 * k, 0, 2, 1);
-        x.source(2 * k, 1);
-        x.source(2 * k + 1, 2);
-        return x;
-    }
-
     private static void holdsTellsWhatItDid() {
         ChipTimers x = new ChipTimers();
         due.is("holds(1, 1)", x.holds(1, 1), 0);
@@ -89,7 +80,7 @@ public final class PairTest {
     }
 
     private static void aPairThatHolds() {
-        ChipTimers x = wholePair(0);
+        ChipTimers x = Rig.wholePair(0, 2);
         x.holds(0, 1);
         x.ticks(5);
         due.is("nothing is HELD yet: read(0, 1)", x.read(0, 1), 1);
@@ -106,7 +97,7 @@ public final class PairTest {
     }
 
     private static void aPairThatDoesNotHold() {
-        ChipTimers x = wholePair(1);
+        ChipTimers x = Rig.wholePair(1, 2);
         x.ticks(5);
         due.is("read(1, 0)", x.read(1, 0), 2);
         x.ticks(1);
@@ -118,7 +109,7 @@ public final class PairTest {
     }
 
     private static void holdsForgets() {
-        ChipTimers x = wholePair(0);
+        ChipTimers x = Rig.wholePair(0, 2);
         x.holds(0, 1);
         x.read(0, 0);
         x.ticks(3);
@@ -133,7 +124,7 @@ public final class PairTest {
     }
 
     private static void heldStaysThroughRefusals() {
-        ChipTimers x = wholePair(0);
+        ChipTimers x = Rig.wholePair(0, 2);
         x.holds(0, 1);
         x.ticks(3);
         x.read(0, 0);
@@ -150,7 +141,7 @@ public final class PairTest {
     }
 
     private static void heldZeroIsHeld() {
-        ChipTimers x = wholePair(0);
+        ChipTimers x = Rig.wholePair(0, 2);
         x.holds(0, 1);
         due.is("read(0, 0)", x.read(0, 0), 0);
         x.ticks(3);
@@ -159,7 +150,7 @@ public final class PairTest {
     }
 
     private static void pairsAreApart() {
-        ChipTimers x = wholePair(0);
+        ChipTimers x = Rig.wholePair(0, 2);
         x.counter(2, 0, 2, 1);
         x.source(2, 1);
         x.source(3, 2);
@@ -175,7 +166,7 @@ public final class PairTest {
     }
 
     private static void wideCount() {
-        ChipTimers x = wholePair(1);
+        ChipTimers x = Rig.wholePair(1, 2);
         x.ticks(20);
         due.is("wide(1)", x.wide(1), 20);
         x.counter(2, 0, 9999, 1);
@@ -188,7 +179,7 @@ public final class PairTest {
         x.top(2, 4);
         x.count(3, 2);
         due.is("a TOP that WAITS does not count: wide(1)", x.wide(1), 20000);
-        ChipTimers y = wholePair(0);
+        ChipTimers y = Rig.wholePair(0, 2);
         y.holds(0, 1);
         y.ticks(3);
         y.read(0, 0);

@@ -18,38 +18,8 @@ public final class RefusalTest {
         due.end();
     }
 
-    /** An object of which every part stands otherwise than at first. */
-    private static ChipTimers busy() {
-        ChipTimers x = new ChipTimers();
-        x.counter(0, 0, 6, 1);
-        x.source(0, 1);
-        x.counter(1, 0, 30, 1);
-        x.source(1, 2);
-        x.counter(2, 2, 5, 3);
-        x.source(2, 1);
-        x.counter(3, 1, 5, 2);
-        x.source(3, 3);
-        x.filter(2, 5);
-        x.holds(0, 1);
-        for (int k = 0; k < 4; k++) {
-            x.input(k, 1);
-            x.catcher(k, k, 3, 1);
-            x.channel(k, k, 1 + k, 2);
-            x.outputs(k, k, k, 3 - k);
-        }
-        x.slow(3, 0, 1);
-        x.ticks(31);
-        x.input(2, 0);
-        x.ticks(2);
-        x.top(1, 8);
-        x.read(0, 0);
-        x.ticks(14);
-        x.brake();
-        return x;
-    }
-
     private static void refused(String told, int want, Call call) {
-        ChipTimers x = busy();
+        ChipTimers x = Rig.busy();
         int[] ahead = Look.all(x);
         due.is(told, call.on(x), want);
         due.row("all behind " + told, Look.all(x), ahead);
