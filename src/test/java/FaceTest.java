@@ -1,7 +1,11 @@
+import java.io.IOException;
 import java.lang.reflect.Constructor;
 import java.lang.reflect.Field;
 import java.lang.reflect.Method;
 import java.lang.reflect.Modifier;
+import java.nio.file.Files;
+import java.nio.file.Path;
+import java.util.List;
 import java.util.Set;
 import java.util.TreeSet;
 
@@ -17,7 +21,7 @@ public final class FaceTest {
     };
     private static final String[] CONSTANTS = {"NONE", "OUTSIDE", "STATE", "UNKNOWN"};
 
-    public static void main(String[] args) {
+    public static void main(String[] args) throws IOException {
         Class<?> face = ChipTimers.class;
         due.holds("the class is public and final",
             Modifier.isPublic(face.getModifiers()) && Modifier.isFinal(face.getModifiers()));
@@ -31,7 +35,58 @@ public final class FaceTest {
             due.holds(inside + " is static", Modifier.isStatic(inside.getModifiers()));
             due.holds(inside + " is not public", !Modifier.isPublic(inside.getModifiers()));
         }
+        List<String> source = Files.readString(Path.of("src/main/java/ChipTimers.java")).lines().map(String::strip)
+            .toList();
+        linesOfTheDocument(source);
+        titlesOfTheInterface(source);
         due.end();
+    }
+
+    /** Parameters bear the document's names, and all stands in the document's order. */
+    private static void linesOfTheDocument(List<String> source) throws IOException {
+        List<String> face = Document.face();
+        due.is("lines of the face: the constants, the constructor and the methods", face.size(), 2 + METHODS.length);
+        int last = -1;
+        for (String line : face) {
+            String wanted = line.endsWith(");") ? line.substring(0, line.length() - 1) + " {" : line;
+            int at = source.indexOf(wanted);
+            due.holds("the class has, behind what the document tells ahead of it: " + wanted, at > last);
+            last = Math.max(last, at);
+        }
+        for (String line : source) {
+            boolean declares = line.startsWith("public ") && !line.startsWith("public final class ");
+            due.holds("the document has " + line, !declares || face.contains(line.replace(") {", ");")));
+        }
+    }
+
+    private static void titlesOfTheInterface(List<String> source) throws IOException {
+        due.sentence("Ahead of the calls `counter`, `source`, `count`, `top`, `ofCounter` the interface says: ---- 1 counters. "
+            + "Ahead of the calls `input`, `filter`, `ofInput`, `catcher`, `taken`, `ofCatcher` the interface says: "
+            + "---- inputs, catchers. Ahead of the calls `ticks` the interface says: ---- 2 ticks. "
+            + "Ahead of the calls `channel`, `outputs`, `ofChannel`, `pin`, `brake`, `arm`, `record` the interface says: "
+            + "---- 3 channels. Ahead of the calls `holds`, `read`, `wide` the interface says: ---- pairs. "
+            + "Ahead of the calls `slow`, `crossed`, `many` the interface says: ---- 4 the other clock.");
+        List<Document.Title> titles = Document.titles();
+        due.is("titles", titles.size(), 6);
+        for (Document.Title title : titles) {
+            for (String call : title.calls()) {
+                due.holds(title.words() + " stands ahead of " + call, titleOf(call, source).equals("// " + title.words()));
+            }
+        }
+    }
+
+    /** The last title ahead of the call. */
+    private static String titleOf(String call, List<String> source) {
+        String title = "none";
+        for (String line : source) {
+            if (line.startsWith("// ---- ")) {
+                title = line;
+            }
+            if (line.startsWith("public int " + call + "(")) {
+                return title;
+            }
+        }
+        return "no such call";
     }
 
     private static void methods(Class<?> face) {

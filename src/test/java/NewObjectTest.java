@@ -5,8 +5,11 @@ public final class NewObjectTest {
         due.is("UNKNOWN", ChipTimers.UNKNOWN, -1);
         due.is("OUTSIDE", ChipTimers.OUTSIDE, -2);
         due.is("STATE", ChipTimers.STATE, -3);
+        due.sentence("NONE is -9.");
         due.is("NONE", ChipTimers.NONE, -9);
 
+        due.sentence("TICK 0; all as at first; PAIRS do not HOLD; PERIOD 4, COUNTER 0 is CROSSED, PLAIN; FIRST, SECOND "
+            + "are 0; all PINS are 0, the RECORD is empty.");
         ChipTimers x = new ChipTimers();
         for (int k = 0; k < 4; k++) {
             due.row("ofCounter(" + k + ", ..)", Look.counter(x, k), 0, 99, 0, 1, 0, 0, 1, 0, -9);

@@ -43,7 +43,7 @@ public final class PromiseEdgesTest {
     }
 
     private static void promise2() {
-        due.sentence("COUNT, PHASE, OVERS are 0, WAY 1, no TOP WAITS (SOURCE stays): 1");
+        due.sentence("A COUNTER gets MODE, TOP, SHARE: COUNT, PHASE, OVERS are 0, WAY 1, no TOP WAITS (SOURCE stays): 1");
         for (int mode = 0; mode <= 2; mode++) {
             ChipTimers x = new ChipTimers();
             x.counter(2, Rig.BOTH, 2, 3);
@@ -56,6 +56,10 @@ public final class PromiseEdgesTest {
             due.is("many(5)", x.many(5), 0);
             x.ticks(3);
             due.is("it goes on by the SOURCE that it had: ofCounter(2, 0)", x.ofCounter(2, 0), mode == 1 ? 2 : 1);
+            due.is("counter(2, " + mode + ", 9999, 64)", x.counter(2, mode, 9999, 64), 1);
+            due.row("ofCounter(2, ..)", Look.counter(x, 2), 0, 9999, mode, 64, 1, 0, 1, 0, -9);
+            due.is("counter(2, " + mode + ", 1, 1)", x.counter(2, mode, 1, 1), 1);
+            due.row("ofCounter(2, ..)", Look.counter(x, 2), 0, 1, mode, 1, 1, 0, 1, 0, -9);
         }
     }
 
@@ -70,7 +74,7 @@ public final class PromiseEdgesTest {
     }
 
     private static void promise4() {
-        due.sentence("COUNT becomes v: what it was .. OUTSIDE: v is not 0 .. TOP");
+        due.sentence("COUNT becomes v: what it was [..] OUTSIDE: v is not 0 .. TOP");
         ChipTimers x = Rig.clocked(Rig.UP, 9, 1);
         due.is("count(0, 9)", x.count(0, 9), 0);
         due.is("count(0, 10)", x.count(0, 10), -2);
@@ -108,7 +112,15 @@ public final class PromiseEdgesTest {
     }
 
     private static void promise6() {
-        due.sentence("8 the TOP that WAITS (NONE)");
+        due.sentence("Of a COUNTER: 0 COUNT, 1 TOP, 2 MODE, 3 SHARE, 4 SOURCE, 5 PHASE, 6 WAY, 7 OVERS, 8 the TOP that "
+            + "WAITS (NONE).");
+        ChipTimers apart = new ChipTimers();
+        apart.counter(3, Rig.BOTH, 8, 5);
+        apart.source(3, Rig.CLOCK);
+        apart.ticks(5 * 10 + 4);
+        apart.top(3, 77);
+        apart.source(3, Rig.EDGE);
+        due.row("ofCounter(3, ..)", Look.counter(apart, 3), 6, 8, 2, 5, 3, 4, 0, 1, 77);
         ChipTimers x = new ChipTimers();
         for (int c = 0; c < 4; c++) {
             due.is("ofCounter(" + c + ", 8)", x.ofCounter(c, 8), -9);
@@ -230,7 +242,17 @@ public final class PromiseEdgesTest {
     }
 
     private static void promise16() {
-        due.sentence("8 the set of its outputs that are ON");
+        due.sentence("Of a CHANNEL: 0 COUNTER, 1 MODE, 2 MARK, 3 LEVEL, 4 SINCE, 5 DEAD, 6 POLARITY, 7 SAFE, 8 the set of "
+            + "its outputs that are ON.");
+        ChipTimers apart = new ChipTimers();
+        apart.count(3, 40);
+        apart.channel(2, 3, Rig.ABOVE, 41);
+        apart.outputs(2, 5, 3, 1);
+        apart.ticks(6);
+        due.row("LEVEL 0: ofChannel(2, ..)", Look.channel(apart, 2), 3, 2, 41, 0, 6, 5, 3, 1, 2);
+        apart.count(3, 41);
+        apart.ticks(7);
+        due.row("LEVEL 1: ofChannel(2, ..)", Look.channel(apart, 2), 3, 2, 41, 1, 7, 5, 3, 1, 1);
         ChipTimers x = Rig.clocked(Rig.UP, 1, 1);
         x.channel(0, 0, Rig.BELOW, 1);
         due.is("none yet: ofChannel(0, 8)", x.ofChannel(0, 8), 0);
@@ -260,7 +282,7 @@ public final class PromiseEdgesTest {
     }
 
     private static void promise18And19() {
-        due.sentence("It is BRAKED from now on: 1; 0: it was already .. It is not BRAKED any more: 1; 0: it was not");
+        due.sentence("It is BRAKED from now on: 1; 0: it was already [..] It is not BRAKED any more: 1; 0: it was not");
         ChipTimers x = new ChipTimers();
         due.is("arm()", x.arm(), 0);
         due.is("many(1)", x.many(1), 0);

@@ -24,8 +24,6 @@ public final class RangeTest {
     }
 
     public static void main(String[] args) {
-        due.sentence("REFUSALS, in the order in which a call's line tells them (of several the first one) .. "
-            + "they change nothing");
         counters();
         inputsAndCatchers();
         channels();
@@ -37,41 +35,64 @@ public final class RangeTest {
     }
 
     private static void counters() {
+        due.sentence("no TOP WAITS (SOURCE stays): 1. UNKNOWN; OUTSIDE.");
         mixtures("counter", (x, p) -> x.counter(p[0], p[1], p[2], p[3]),
             part(3), number(0, 2), number(1, 9999), number(1, 64));
+        due.sentence("SOURCE becomes s: what it was. UNKNOWN; OUTSIDE; STATE: s is 2, c is 0.");
         mixtures("source", (x, p) -> x.source(p[0], p[1]), part(3), number(0, 3));
+        due.sentence("COUNT becomes v: what it was. UNKNOWN; OUTSIDE: v is not 0 .. TOP.");
         mixtures("count", (x, p) -> x.count(p[0], p[1]), part(3), number(0, 30));
+        due.sentence("A TOP WAITS (in place of any): the TOP that there is now. UNKNOWN; OUTSIDE.");
         mixtures("top", (x, p) -> x.top(p[0], p[1]), part(3), number(1, 9999));
+        due.sentence("8 the TOP that WAITS (NONE). UNKNOWN; OUTSIDE.");
         mixtures("ofCounter", (x, p) -> x.ofCounter(p[0], p[1]), part(3), number(0, 8));
     }
 
     private static void inputsAndCatchers() {
+        due.sentence("RAW becomes v (0, 1): what it was. UNKNOWN; OUTSIDE.");
         mixtures("input", (x, p) -> x.input(p[0], p[1]), part(3), number(0, 1));
+        due.sentence("FILTER becomes f: what it was (RUN stays). UNKNOWN; OUTSIDE.");
         mixtures("filter", (x, p) -> x.filter(p[0], p[1]), part(3), number(1, 8));
+        due.sentence("Of an INPUT: 0 RAW, 1 STEADY, 2 RUN, 3 FILTER. UNKNOWN; OUTSIDE.");
         mixtures("ofInput", (x, p) -> x.ofInput(p[0], p[1]), part(3), number(0, 3));
+        due.sentence("SEEN, VALUE, READY, MISSED are 0: 1. UNKNOWN: CATCHER, COUNTER; OUTSIDE.");
         mixtures("catcher", (x, p) -> x.catcher(p[0], p[1], p[2], p[3]),
             part(3), part(3), number(0, 3), number(1, 4));
+        due.sentence("NONE: it was not READY. UNKNOWN.");
         mixtures("taken", (x, p) -> x.taken(p[0]), part(3));
+        due.sentence("4 VALUE, 5 READY, 6 MISSED. UNKNOWN; OUTSIDE.");
         mixtures("ofCatcher", (x, p) -> x.ofCatcher(p[0], p[1]), part(3), number(0, 6));
     }
 
     private static void channels() {
+        due.sentence("LEVEL, SINCE are 0: 1. UNKNOWN: CHANNEL, COUNTER; OUTSIDE.");
         mixtures("channel", (x, p) -> x.channel(p[0], p[1], p[2], p[3]),
             part(3), part(3), number(0, 4), number(0, 9999));
+        due.sentence("A CHANNEL gets DEAD, POLARITY, SAFE: 1. UNKNOWN; OUTSIDE.");
         mixtures("outputs", (x, p) -> x.outputs(p[0], p[1], p[2], p[3]),
             part(3), number(0, 20), number(0, 3), number(0, 3));
+        due.sentence("8 the set of its outputs that are ON. UNKNOWN; OUTSIDE.");
         mixtures("ofChannel", (x, p) -> x.ofChannel(p[0], p[1]), part(3), number(0, 8));
+        due.sentence("The level of PIN p (0 .. 7). OUTSIDE.");
         mixtures("pin", (x, p) -> x.pin(p[0]), number(0, 7));
+        due.sentence("NONE: there are not so many. OUTSIDE: k (0 .. 23), what.");
         mixtures("record", (x, p) -> x.record(p[0], p[1]), number(0, 23), number(0, 2));
     }
 
     private static void theRest() {
+        due.sentence("n TICKS (0 .. 400): the number of TICKS then. OUTSIDE.");
         mixtures("ticks", (x, p) -> x.ticks(p[0]), number(0, 400));
+        due.sentence("nothing is HELD by it then. UNKNOWN; OUTSIDE.");
         mixtures("holds", (x, p) -> x.holds(p[0], p[1]), part(1), number(0, 1));
+        due.sentence("A READ of the low (half 0), high half (1) of a PAIR. UNKNOWN; OUTSIDE; STATE: it is not whole.");
         mixtures("read", (x, p) -> x.read(p[0], p[1]), part(1), number(0, 1));
+        due.sentence("and that of the low one. UNKNOWN; STATE: it is not whole.");
         mixtures("wide", (x, p) -> x.wide(p[0]), part(1));
+        due.sentence("FIRST, SECOND are 0: 1. UNKNOWN: COUNTER; OUTSIDE.");
         mixtures("slow", (x, p) -> x.slow(p[0], p[1], p[2]), number(2, 16), part(3), number(0, 1));
+        due.sentence("the COUNTER that is CROSSED (3), how (4). OUTSIDE.");
         mixtures("crossed", (x, p) -> x.crossed(p[0]), number(0, 4));
+        due.sentence("4 CATCHERS that are READY, 5 OVERS of all COUNTERS. OUTSIDE.");
         mixtures("many", (x, p) -> x.many(p[0]), number(0, 5));
     }
 

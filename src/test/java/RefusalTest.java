@@ -31,6 +31,8 @@ public final class RefusalTest {
 
     /** UNKNOWN comes ahead of OUTSIDE and STATE, so all else is wrong here, too. */
     private static void unknown(int b) {
+        due.sentence("REFUSALS, in the order in which a call's line tells them (of several the first one): UNKNOWN "
+            + "(there is no such COUNTER, INPUT, CATCHER, CHANNEL, PAIR)");
         refused("counter(" + b + ", ..)", -1, x -> x.counter(b, -1, 0, 0));
         refused("source(" + b + ", 9)", -1, x -> x.source(b, 9));
         refused("source(" + b + ", 2)", -1, x -> x.source(b, 2));
@@ -55,6 +57,7 @@ public final class RefusalTest {
     }
 
     private static void outside(int b) {
+        due.sentence("OUTSIDE (another number is not as told), STATE (as told); they change nothing");
         refused("counter(1, " + b + ", 1, 1)", -2, x -> x.counter(1, b, 1, 1));
         refused("counter(1, 0, " + b + ", 1)", -2, x -> x.counter(1, 0, b, 1));
         refused("counter(1, 0, 1, " + b + ")", -2, x -> x.counter(1, 0, 1, b));
@@ -88,6 +91,7 @@ public final class RefusalTest {
     }
 
     private static void justOutside() {
+        due.sentence("OUTSIDE (another number is not as told)");
         refused("counter(1, 3, 1, 1)", -2, x -> x.counter(1, 3, 1, 1));
         refused("counter(1, 0, 0, 1)", -2, x -> x.counter(1, 0, 0, 1));
         refused("counter(1, 0, 10000, 1)", -2, x -> x.counter(1, 0, 10000, 1));
@@ -120,6 +124,7 @@ public final class RefusalTest {
     }
 
     private static void states() {
+        due.sentence("STATE (as told); they change nothing.");
         refused("source(0, 2)", -3, x -> x.source(0, 2));
         refused("read(1, 0)", -3, x -> x.read(1, 0));
         refused("read(1, 1)", -3, x -> x.read(1, 1));

@@ -4,6 +4,7 @@ public final class Terms1Test {
 
     public static void main(String[] args) {
         ticksFromZero();
+        countersZeroToThree();
         countersAtFirst();
         rangeOfMode();
         rangeOfTop();
@@ -11,6 +12,7 @@ public final class Terms1Test {
         rangeOfSource();
         rangeOfCount();
         rangeOfPhase();
+        rangeOfWay();
         oversAreCounted();
         inputsAtFirst();
         rangeOfFilter();
@@ -22,6 +24,7 @@ public final class Terms1Test {
         rangeOfChannelMode();
         rangeOfMark();
         rangeOfDead();
+        twoOutputs();
         setsOfOutputs();
         notBrakedAtFirst();
         due.end();
@@ -34,6 +37,26 @@ public final class Terms1Test {
         due.is("ticks(0)", x.ticks(0), 0);
         due.is("ticks(1)", x.ticks(1), 1);
         due.is("many(0)", x.many(0), 1);
+    }
+
+    /** What is set of one COUNTER is told of it and of none of the others. */
+    private static void countersZeroToThree() {
+        due.sentence("COUNTERS 0 .. 3, each with a MODE [..], a TOP [..], a SHARE [..], a SOURCE");
+        for (int c = 0; c < 4; c++) {
+            ChipTimers x = new ChipTimers();
+            x.counter(c, Rig.BOTH, 4, 3);
+            x.source(c, Rig.CLOCK);
+            x.top(c, 6);
+            x.ticks(17);
+            for (int other = 0; other < 4; other++) {
+                int[] atFirst = {0, 99, 0, 1, 0, 0, 1, 0, -9};
+                int[] gone = {3, 4, 2, 3, 1, 2, 0, 1, 6};
+                due.row("COUNTER " + c + " set: ofCounter(" + other + ", ..)", Look.counter(x, other),
+                    other == c ? gone : atFirst);
+            }
+        }
+        due.is("ofCounter(4, 0)", new ChipTimers().ofCounter(4, 0), -1);
+        due.is("ofCounter(-1, 0)", new ChipTimers().ofCounter(-1, 0), -1);
     }
 
     private static void countersAtFirst() {
@@ -158,6 +181,23 @@ public final class Terms1Test {
         }
     }
 
+    private static void rangeOfWay() {
+        due.sentence("a WAY (1 up, 0 down)");
+        ChipTimers x = Rig.clocked(Rig.BOTH, 3, 1);
+        int count = 0;
+        for (int i = 0; i < 20; i++) {
+            x.ticks(1);
+            int now = x.ofCounter(0, 0);
+            due.is("from " + count + " to " + now + ": ofCounter(0, 6)", x.ofCounter(0, 6), now > count ? 1 : 0);
+            count = now;
+        }
+        for (int mode = Rig.UP; mode <= Rig.DOWN; mode++) {
+            ChipTimers y = Rig.clocked(mode, 3, 1);
+            y.ticks(6);
+            due.is("only BOTH turns it: ofCounter(0, 6)", y.ofCounter(0, 6), 1);
+        }
+    }
+
     private static void oversAreCounted() {
         due.sentence("OVERS (how often it went OVER)");
         int[] wanted = {133, 134, 199};
@@ -191,7 +231,7 @@ public final class Terms1Test {
     }
 
     private static void catchersAtFirst() {
-        due.sentence("a COUNTER (0 at first), EDGES that it takes (.. 0 at first), EVERY (1 .. 4; 1), SEEN (0), "
+        due.sentence("a COUNTER (0 at first), EDGES that it takes ([..] 0 at first), EVERY (1 .. 4; 1), SEEN (0), "
             + "a VALUE (0), READY (0), MISSED (0)");
         for (int k = 0; k < 4; k++) {
             ChipTimers x = Rig.clocked(Rig.UP, 99, 1);
@@ -247,8 +287,8 @@ public final class Terms1Test {
     }
 
     private static void channelsAtFirst() {
-        due.sentence("CHANNELS 0 .. 3: a COUNTER (0), a MODE (.. 0 at first), a MARK (0 .. 9999; 0), a LEVEL (0), "
-            + "SINCE (0), DEAD (0 .. 20; 0), .. POLARITY and SAFE (.. 0 at first)");
+        due.sentence("CHANNELS 0 .. 3: a COUNTER (0), a MODE ([..] 0 at first), a MARK (0 .. 9999; 0), a LEVEL (0), "
+            + "SINCE (0), DEAD (0 .. 20; 0), [..] POLARITY and SAFE ([..] 0 at first)");
         for (int k = 0; k < 4; k++) {
             ChipTimers x = Rig.clocked(Rig.UP, 99, 1);
             due.row("ofChannel(" + k + ", ..)", Look.channel(x, k), 0, 0, 0, 0, 0, 0, 0, 0, 0);
@@ -304,6 +344,24 @@ public final class Terms1Test {
         due.is("ofChannel(2, 5)", x.ofChannel(2, 5), 20);
         due.is("outputs(2, 0, 0, 0)", x.outputs(2, 0, 0, 0), 1);
         due.is("ofChannel(2, 5)", x.ofChannel(2, 5), 0);
+    }
+
+    private static void twoOutputs() {
+        due.sentence("two outputs, 0 and 1");
+        ChipTimers x = Rig.clocked(Rig.UP, 1, 1);
+        for (int k = 0; k < 4; k++) {
+            x.channel(k, 0, Rig.BELOW, 1);
+        }
+        for (int i = 0; i < 4; i++) {
+            x.ticks(1);
+            int output = 1 - x.ofChannel(0, 3);
+            due.row("LEVEL " + (1 - output), Look.pins(x), 1 - output, output, 1 - output, output, 1 - output, output,
+                1 - output, output);
+            due.is("one of each CHANNEL: many(2)", x.many(2), 4);
+            for (int k = 0; k < 4; k++) {
+                due.is("output " + output + ": ofChannel(" + k + ", 8)", x.ofChannel(k, 8), 1 << output);
+            }
+        }
     }
 
     private static void setsOfOutputs() {

@@ -167,7 +167,7 @@ public final class Terms2ChannelsTest {
     }
 
     private static void markBeyondTop() {
-        due.sentence("BELOW: 1, if COUNT is less than MARK .. COUNT is MARK");
+        due.sentence("BELOW: 1, if COUNT is less than MARK [..] COUNT is MARK");
         ChipTimers x = Rig.clocked(Rig.UP, 3, 1);
         for (int k = 0; k < 4; k++) {
             x.channel(k, 0, k + 1, 4);

@@ -198,7 +198,7 @@ public final class Terms2CountersTest {
     }
 
     private static void bothAtTop() {
-        due.sentence("BOTH: with WAY 1 at TOP it goes OVER, and WAY is 0; .. then COUNT is one more by WAY 1, one less "
+        due.sentence("BOTH: with WAY 1 at TOP it goes OVER, and WAY is 0; [..] then COUNT is one more by WAY 1, one less "
             + "by WAY 0");
         for (int top : new int[] {1, 2, 99, 9999}) {
             ChipTimers x = Rig.clocked(Rig.BOTH, top, 1);
@@ -226,7 +226,7 @@ public final class Terms2CountersTest {
     }
 
     private static void bothAtEndsThatAreNotItsWay() {
-        due.sentence("BOTH: with WAY 1 at TOP it goes OVER .. with WAY 0 at 0 it goes OVER");
+        due.sentence("BOTH: with WAY 1 at TOP it goes OVER [..] with WAY 0 at 0 it goes OVER");
         ChipTimers x = Rig.clocked(Rig.BOTH, 9, 1);
         x.ticks(1);
         due.row("at 0 with WAY 1", Look.counter(x, 0), 1, 9, 2, 1, 1, 0, 1, 0, -9);
@@ -238,7 +238,7 @@ public final class Terms2CountersTest {
     }
 
     private static void waitingTopUp() {
-        due.sentence("UP: .. at TOP it goes OVER: a TOP that WAITS is TOP now, COUNT is 0");
+        due.sentence("UP: [..] at TOP it goes OVER: a TOP that WAITS is TOP now, COUNT is 0");
         for (int waits : new int[] {1, 2, 3, 5, 9999}) {
             ChipTimers x = Rig.clocked(Rig.UP, 3, 1);
             x.top(0, waits);
@@ -253,7 +253,7 @@ public final class Terms2CountersTest {
     }
 
     private static void waitingTopDown() {
-        due.sentence("DOWN: .. at 0 it goes OVER: a TOP that WAITS is TOP now, COUNT is TOP");
+        due.sentence("DOWN: [..] at 0 it goes OVER: a TOP that WAITS is TOP now, COUNT is TOP");
         for (int waits : new int[] {1, 2, 3, 5, 9999}) {
             ChipTimers x = Rig.clocked(Rig.DOWN, 3, 1);
             x.count(0, 1);

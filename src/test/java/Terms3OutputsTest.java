@@ -219,7 +219,7 @@ public final class Terms3OutputsTest {
     }
 
     private static void anewBehindChannel() {
-        due.sentence("behind each .. channel() .. that is not refused");
+        due.sentence("behind each [..] channel() [..] that is not refused");
         ChipTimers x = new ChipTimers();
         x.channel(0, 0, Rig.BELOW, 1);
         x.ticks(1);
@@ -231,7 +231,7 @@ public final class Terms3OutputsTest {
     }
 
     private static void anewBehindOutputs() {
-        due.sentence("behind each .. outputs() that is not refused");
+        due.sentence("behind each [..] outputs() that is not refused");
         ChipTimers x = new ChipTimers();
         x.channel(0, 0, Rig.BELOW, 1);
         x.ticks(3);

@@ -13,6 +13,8 @@ public final class Terms3PairsTest {
         lowHalfReadTwice();
         heldAtTheEnds();
         heldOutlivesBeingNotWhole();
+        heldStaysThroughEveryOtherCall();
+        heldOfCountersSetAnew();
         holdsForgetsWhatIsHeld();
         holdsTellsWhetherItDid();
         eachPairHoldsItsOwn();
@@ -132,7 +134,7 @@ public final class Terms3PairsTest {
     }
 
     private static void highHalfOfAPairThatDoesNotHold() {
-        due.sentence("if it is a PAIR that HOLDS .. else the COUNT of the high one");
+        due.sentence("if it is a PAIR that HOLDS [..] else the COUNT of the high one");
         ChipTimers x = Rig.wholePair(0, 1);
         due.is("read(0, 0)", x.read(0, 0), 0);
         x.ticks(2);
@@ -145,7 +147,7 @@ public final class Terms3PairsTest {
     }
 
     private static void lowHalfReadTwice() {
-        due.sentence("A READ of the low half .. keeps the COUNT of the high one (HELD)");
+        due.sentence("A READ of the low half is its COUNT, and keeps the COUNT of the high one (HELD)");
         ChipTimers x = Rig.wholePair(0, 1);
         x.holds(0, 1);
         x.read(0, 0);
@@ -175,7 +177,7 @@ public final class Terms3PairsTest {
     }
 
     private static void heldOutlivesBeingNotWhole() {
-        due.sentence("they change nothing .. STATE: it is not whole");
+        due.sentence("they change nothing [..] STATE: it is not whole");
         ChipTimers x = Rig.wholePair(0, 1);
         x.holds(0, 1);
         x.ticks(2);
@@ -189,8 +191,93 @@ public final class Terms3PairsTest {
         due.is("read(0, 1)", x.read(0, 1), 2);
     }
 
+    private interface Change {
+        void of(ChipTimers x);
+    }
+
+    /** 3 is HELD and the high COUNT is 5 then; the change leaves the PAIR whole, with this high COUNT. */
+    private static void stillHeld(String told, int high, Change change) {
+        due.sentence("one of the high half is what is HELD, if it is a PAIR that HOLDS and something is HELD (nothing "
+            + "is HELD any more then)");
+        for (int k = 0; k < 2; k++) {
+            ChipTimers x = Rig.wholePair(k, 1);
+            x.holds(k, 1);
+            x.ticks(6);
+            x.read(k, 0);
+            x.ticks(4);
+            x.source(2 * k, 0);
+            change.of(x);
+            due.is("HELD behind " + told + ": read(" + k + ", 1)", x.read(k, 1), 3);
+            due.is("HELD no more: read(" + k + ", 1)", x.read(k, 1), high);
+        }
+    }
+
+    /** Only a READ of the high half and holds() are said to end it. */
+    private static void heldStaysThroughEveryOtherCall() {
+        stillHeld("ticks()", 5, x -> x.ticks(400));
+        stillHeld("wide()", 5, x -> {
+            x.wide(0);
+            x.wide(1);
+        });
+        stillHeld("top()", 5, x -> {
+            for (int c = 0; c < 4; c++) {
+                x.top(c, 50);
+            }
+        });
+        stillHeld("brake() and arm()", 5, x -> {
+            x.brake();
+            x.arm();
+        });
+        stillHeld("calls of INPUTS, CATCHERS, CHANNELS", 5, x -> {
+            for (int k = 0; k < 4; k++) {
+                x.input(k, 1);
+                x.filter(k, 2);
+                x.catcher(k, k, 3, 1);
+                x.taken(k);
+                x.channel(k, k, 1, 1);
+                x.outputs(k, 1, 1, 1);
+            }
+        });
+        stillHeld("slow()", 5, x -> x.slow(2, 1, 1));
+        stillHeld("all that only tells", 5, Look::all);
+        stillHeld("refused calls", 5, x -> {
+            for (int k = -1; k <= 2; k++) {
+                x.holds(k, 2);
+                x.read(k, -1);
+            }
+        });
+    }
+
+    private static void heldOfCountersSetAnew() {
+        stillHeld("count()", 7, x -> {
+            for (int c = 1; c < 4; c += 2) {
+                x.count(c, 7);
+            }
+        });
+        stillHeld("counter()", 0, x -> {
+            for (int c = 0; c < 4; c++) {
+                x.counter(c, Rig.UP, 2, 1);
+            }
+        });
+        stillHeld("counter() that made it not whole for a while", 0, x -> {
+            for (int c = 1; c < 4; c += 2) {
+                x.counter(c, Rig.DOWN, 2, 4);
+                x.read(c / 2, 1);
+                x.counter(c, Rig.UP, 2, 1);
+            }
+        });
+        stillHeld("source() that made it not whole for a while", 5, x -> {
+            for (int c = 1; c < 4; c += 2) {
+                x.source(c, 0);
+                x.read(c / 2, 0);
+                x.read(c / 2, 1);
+                x.source(c, Rig.AHEAD);
+            }
+        });
+    }
+
     private static void holdsForgetsWhatIsHeld() {
-        due.sentence("A PAIR HOLDS (v 1), or does not (0) .. nothing is HELD by it then");
+        due.sentence("A PAIR HOLDS (v 1), or does not (0) [..] nothing is HELD by it then");
         ChipTimers again = Rig.wholePair(0, 1);
         again.holds(0, 1);
         again.read(0, 0);

@@ -25,7 +25,7 @@ public final class Terms3RecordTest {
     }
 
     private static void empty() {
-        due.sentence("the RECORD is empty .. NONE: there are not so many");
+        due.sentence("the RECORD is empty [..] NONE: there are not so many");
         ChipTimers x = new ChipTimers();
         due.is("many(3)", x.many(3), 0);
         for (int k = 0; k < 24; k++) {
@@ -51,7 +51,7 @@ public final class Terms3RecordTest {
     }
 
     private static void onlyAnotherLevel() {
-        due.sentence("each that becomes another one .. comes into the RECORD");
+        due.sentence("each that becomes another one [..] comes into the RECORD");
         ChipTimers x = new ChipTimers();
         x.ticks(400);
         x.brake();

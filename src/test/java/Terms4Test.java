@@ -19,6 +19,7 @@ public final class Terms4Test {
         twistedDown();
         twistedIsNeverFarOff();
         sampleOfTheCounterThatIsCrossed();
+        countsBelow16384();
         due.end();
     }
 
@@ -47,8 +48,8 @@ public final class Terms4Test {
     }
 
     private static void firstTickIsNumberOne() {
-        due.sentence("if the number of TICKS by then, this one too (so 1 in the first TICK), can be divided by its "
-            + "PERIOD");
+        due.sentence("The SLOW clock, if the number of TICKS by then, this one too (so 1 in the first TICK), can be "
+            + "divided by its PERIOD");
         ChipTimers x = new ChipTimers();
         x.count(0, 7);
         x.slow(2, 0, Rig.PLAIN);
@@ -98,7 +99,7 @@ public final class Terms4Test {
     }
 
     private static void secondIsFirst() {
-        due.sentence("SECOND is FIRST; FIRST is a SAMPLE");
+        due.sentence("SECOND is FIRST; FIRST is a SAMPLE (see 4)");
         ChipTimers x = new ChipTimers();
         x.slow(3, 0, Rig.TWISTED);
         int[] put = {10, 20, 30, 40};
@@ -196,7 +197,7 @@ public final class Terms4Test {
     }
 
     private static void twistedWhereManyBitsOfTheCountChange() {
-        due.sentence("a count that another clock samples .. so that one bit alone changes");
+        due.sentence("a count that another clock samples [..] so that one bit alone changes");
         due.is("15 and 16", up(15, Rig.TWISTED), 15);
         due.is("1023 and 1024", up(1023, Rig.TWISTED), 1023);
         due.is("4095 and 4096", up(4095, Rig.TWISTED), 4095);
@@ -204,7 +205,7 @@ public final class Terms4Test {
     }
 
     private static void twistedOver() {
-        due.sentence("TWISTED: .. bits that are 1 in both");
+        due.sentence("TWISTED: [..] bits that are 1 in both");
         due.is("UP from 9999 to 0", up(9999, Rig.TWISTED), 0);
         due.is("UP from TOP 99 to 0", sampled(Rig.UP, 99, 99, Rig.TWISTED), 0);
         due.is("DOWN from 0 to 9999", sampled(Rig.DOWN, 9999, 0, Rig.TWISTED), 0);
@@ -227,6 +228,27 @@ public final class Terms4Test {
             x.ticks(2);
             int got = x.crossed(0);
             due.holds(got + " is " + (b - 1) + " or " + b, got == b - 1 || got == b);
+        }
+    }
+
+    /** A SAMPLE of 14 bits is enough: no COUNT comes to more, and no SAMPLE of two COUNTS does. */
+    private static void countsBelow16384() {
+        due.sentence("(COUNTS below 16384.)");
+        for (int c = 0; c < 4; c++) {
+            ChipTimers x = new ChipTimers();
+            x.counter(c, Rig.DOWN, 9999, 1);
+            due.is("counter(" + c + ", 1, 16384, 1)", x.counter(c, Rig.DOWN, 16384, 1), -2);
+            due.is("top(" + c + ", 16384)", x.top(c, 16384), -2);
+            due.is("count(" + c + ", 16384)", x.count(c, 16384), -2);
+            x.source(c, Rig.CLOCK);
+            x.slow(2, c, Rig.TWISTED);
+            x.ticks(2);
+            due.is("9999 and 9998, the greatest COUNTS: crossed(0)", x.crossed(0), 9999);
+        }
+        for (int bit = 1; bit < 16384; bit *= 2) {
+            int a = Math.min(bit, 9999);
+            due.is("TWISTED " + a, still(a, Rig.TWISTED), a);
+            due.is("PLAIN " + a, still(a, Rig.PLAIN), a);
         }
     }
 
