@@ -65,8 +65,7 @@ public final class LanguageTest extends TreePathScanner<Void, Void> {
     private static final Set<String> NOT_OF_OBJECTS = Set.of("equals", "hashCode", "toString");
 
     /** Rule 4: what is taken from the library; nothing here knows a clock, a file or a random source. */
-    private static final Set<String> LIBRARY = Set.of("java.lang.Math.min", "java.lang.Math.max", "java.lang.Math.abs",
-        "java.lang.Math.floorMod", "java.lang.Math.floorDiv", "java.lang.Integer.bitCount");
+    private static final Set<String> LIBRARY = Set.of("java.lang.Math.min", "java.lang.Integer.bitCount");
 
     private final CompilationUnitTree unit;
     private final Trees trees;
